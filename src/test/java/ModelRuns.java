@@ -23,7 +23,7 @@ public final class ModelRuns {
     private static long calls = 0;
 
     public static void main(String[] args) {
-        for (int seed = 0; seed < 8 * FIELDS.length; seed++) {
+        for (int seed = 0; seed < 20 * FIELDS.length; seed++) {
             new Run(seed).go();
         }
         System.out.println(calls + " calls, " + wrong + " answers are not as due");
@@ -38,6 +38,7 @@ public final class ModelRuns {
         final Random random;
         final PairingDesk desk = new PairingDesk();
         final Model model = new Model();
+        int done = 0;
 
         Run(int seed) {
             this.seed = seed;
@@ -49,7 +50,8 @@ public final class ModelRuns {
             if (seed % 3 != 0) {
                 due("field", desk.field(first[0], first[1]), model.field(first[0], first[1]));
             }
-            for (int i = 0; i < 250; i++) {
+            // Well below the 512 calls that an object is used for.
+            for (int i = 0; done < 490; i++) {
                 if (seed % 3 == 0 && i == 20) {
                     due("field", desk.field(first[0], first[1]), model.field(first[0], first[1]));
                 }
@@ -60,6 +62,7 @@ public final class ModelRuns {
 
         void due(String call, long got, long want) {
             calls++;
+            done++;
             if (got != want) {
                 wrong++;
                 System.out.println("run " + seed + ": " + call + " answered " + got + ", due is " + want);
