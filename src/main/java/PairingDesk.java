@@ -1,3 +1,7 @@
+/**
+ * Pairings of points of a curve over a prime, and what is signed by them. The public calls test what they are given
+ * and answer refusals; behind them PrimeField, Curve and Pairing reckon with what is known to be right.
+ */
 public final class PairingDesk {
     public static final int NONE = -1, BAD = -2, STATE = -3;
 
@@ -370,12 +374,12 @@ public final class PairingDesk {
 
         /** Since p has rest 3 by 4, this power is a root wherever there is one; else NONE. */
         long evenRoot(long square) {
-            long y = 1, doubled = square;
+            long y = 1, squared = square;
             for (long rest = (p + 1) / 4; rest > 0; rest >>= 1) {
                 if (rest % 2 == 1) {
-                    y = product(y, doubled);
+                    y = product(y, squared);
                 }
-                doubled = product(doubled, doubled);
+                squared = product(squared, squared);
             }
             if (product(y, y) != square) {
                 return NONE;

@@ -352,7 +352,7 @@ public final class PromiseTests {
             due("write(4)", desk.write(4), on ? w : -1);
         }
         desk.point(4, 5, 3);
-        for (long w : new long[] {-2, 1, 2, 22, 23, 32, 1L << 32, (1L << 32) + 10, Long.MIN_VALUE, Long.MAX_VALUE}) {
+        for (long w : new long[] {-2, -12, -22, -21, 1, 2, 22, 23, 32, 1L << 32, (1L << 32) + 10, Long.MIN_VALUE, Long.MAX_VALUE}) {
             due("read(4, " + w + ")", desk.read(4, w), NONE);
             due("the slot stays", desk.write(4), 11);
         }
